@@ -149,9 +149,9 @@ public final class DriverHost {
         Reader reader = new Reader(buffer, length, false);
         reader.readText();
         fed = 0;
-        errorAt = reader.errorAt;
-        if (reader.error != NO_ERROR) {
-            return -10 - reader.error;
+        errorAt = reader.tokens.errorAt;
+        if (reader.tokens.error != NO_ERROR) {
+            return -10 - reader.tokens.error;
         }
         world = new World(reader.program);
         history.clear();
@@ -454,9 +454,9 @@ public final class DriverHost {
         Reader reader = new Reader(buffer, length, true);
         reader.readQuery();
         fed = 0;
-        errorAt = reader.errorAt;
-        if (reader.error != NO_ERROR) {
-            return HIDDEN - reader.error;
+        errorAt = reader.tokens.errorAt;
+        if (reader.tokens.error != NO_ERROR) {
+            return HIDDEN - reader.tokens.error;
         }
         return reader.asksFirst ? firstMatch(reader.code) : countMatches(reader.code);
     }
@@ -1302,6 +1302,8 @@ public final class DriverHost {
         final Word[] words;
         int count = 0;
         int at = 0;
+        int error = NO_ERROR;
+        int errorAt = NONE;
 
         Tokens(byte[] text, int length) {
             this.text = text;
@@ -1382,11 +1384,6 @@ public final class DriverHost {
             return at >= count;
         }
 
-        /** The first byte of the present token; the length of the text at its end. */
-        int position() {
-            return at < count ? froms[at] : length;
-        }
-
         /** The quoted word that is the present token; null if it is none. */
         Word word() {
             return at < count ? words[at] : null;
@@ -1412,9 +1409,13 @@ public final class DriverHost {
             return at < count && kinds[at] == TOKEN_WORD && words[at] == null;
         }
 
-        /** Nothing behind the first error is looked at. */
-        void stop() {
-            at = count;
+        /** Only the first error counts, and nothing behind it is looked at. */
+        void refuse(int itsError) {
+            if (error == NO_ERROR) {
+                error = itsError;
+                errorAt = at < count ? froms[at] : length;
+                at = count;
+            }
         }
 
         boolean areSame(int one, int other) {
@@ -1438,8 +1439,6 @@ public final class DriverHost {
         final Program program;
         final Code code;
         boolean asksFirst = false;
-        int error = NO_ERROR;
-        int errorAt = NONE;
         int open = 0;
         int place = IN_TEST;
 
@@ -1467,15 +1466,7 @@ public final class DriverHost {
             takeWord(asksFirst ? Word.FIRST : Word.MANY);
             readTest();
             if (!tokens.atEnd()) {
-                refuse(ERROR_TOKEN);
-            }
-        }
-
-        private void refuse(int itsError) {
-            if (error == NO_ERROR) {
-                error = itsError;
-                errorAt = tokens.position();
-                tokens.stop();
+                tokens.refuse(ERROR_TOKEN);
             }
         }
 
@@ -1483,7 +1474,7 @@ public final class DriverHost {
             if (tokens.isWord(wanted)) {
                 tokens.advance();
             } else {
-                refuse(ERROR_TOKEN);
+                tokens.refuse(ERROR_TOKEN);
             }
         }
 
@@ -1491,18 +1482,18 @@ public final class DriverHost {
             if (tokens.isSign(wanted)) {
                 tokens.advance();
             } else {
-                refuse(ERROR_TOKEN);
+                tokens.refuse(ERROR_TOKEN);
             }
         }
 
         private int takeNumber(int low, int high) {
             int number = tokens.number();
             if (!tokens.isNumber()) {
-                refuse(ERROR_TOKEN);
+                tokens.refuse(ERROR_TOKEN);
                 return low;
             }
             if (number < low || number > high) {
-                refuse(ERROR_RANGE);
+                tokens.refuse(ERROR_RANGE);
                 return low;
             }
             tokens.advance();
@@ -1516,7 +1507,7 @@ public final class DriverHost {
                 return;
             }
             if (word == null || !word.isSetting) {
-                refuse(ERROR_TOKEN);
+                tokens.refuse(ERROR_TOKEN);
                 return;
             }
             tokens.advance();
@@ -1538,7 +1529,7 @@ public final class DriverHost {
 
         private void readCommand() {
             if (program.commandCount >= MOST_COMMANDS) {
-                refuse(ERROR_TOO_MANY);
+                tokens.refuse(ERROR_TOO_MANY);
                 return;
             }
             tokens.advance();
@@ -1570,12 +1561,12 @@ public final class DriverHost {
 
         private void readName(Command command) {
             if (!tokens.isName()) {
-                refuse(ERROR_TOKEN);
+                tokens.refuse(ERROR_TOKEN);
                 return;
             }
             for (int number = 0; number < program.commandCount; number++) {
                 if (tokens.areSame(program.commandAt(number).nameToken, tokens.at)) {
-                    refuse(ERROR_NAME);
+                    tokens.refuse(ERROR_NAME);
                     return;
                 }
             }
@@ -1586,7 +1577,7 @@ public final class DriverHost {
         private void readClass(Command command) {
             Word word = tokens.word();
             if (word == null || word.commandClass == NONE) {
-                refuse(ERROR_TOKEN);
+                tokens.refuse(ERROR_TOKEN);
                 return;
             }
             command.kind = word.commandClass;
@@ -1650,7 +1641,7 @@ public final class DriverHost {
         /** Steps over a 'not' or a bracket, unless too many are open already. */
         private boolean opens() {
             if (open >= MOST_OPEN) {
-                refuse(ERROR_TOO_MANY);
+                tokens.refuse(ERROR_TOO_MANY);
                 return false;
             }
             open++;
@@ -1660,7 +1651,10 @@ public final class DriverHost {
 
         private int takeComparison() {
             int op = tokens.isSign('<') ? OP_LESS : tokens.isSign('>') ? OP_GREATER : OP_EQUAL;
-            takeSign(op == OP_LESS ? '<' : op == OP_GREATER ? '>' : '=');
+            if (op == OP_EQUAL && !tokens.isSign('=')) {
+                tokens.refuse(ERROR_TOKEN);
+            }
+            tokens.advance();
             return op;
         }
 
@@ -1672,7 +1666,7 @@ public final class DriverHost {
                 code.add(OP_CELL, word.property);
                 tokens.advance();
             } else {
-                refuse(ERROR_TOKEN);
+                tokens.refuse(ERROR_TOKEN);
             }
         }
 
@@ -1717,7 +1711,7 @@ public final class DriverHost {
                 tokens.advance();
                 code.add(OP_CELL, RESULT_CELL);
             } else {
-                refuse(ERROR_TOKEN);
+                tokens.refuse(ERROR_TOKEN);
             }
         }
     }

@@ -21,7 +21,8 @@ public final class ModelTest {
     }
 
     public static void main(String[] args) throws Exception {
-        for (int run = 0; run < RUNS; run++) {
+        int runs = args.length > 0 ? Integer.parseInt(args[0]) : RUNS;
+        for (int run = 0; run < runs; run++) {
             new ModelTest(run).play();
         }
         Check.close("ModelTest");
