@@ -3,8 +3,13 @@ import java.util.NoSuchElementException;
 
 /** What all tests share: counting wrong answers, and feeding texts. */
 final class Check {
+    static final int LEAST = Integer.MIN_VALUE;
+    static final int GREATEST = Integer.MAX_VALUE;
+
     private static int wrong = 0;
     private static int asked = 0;
+    private static String sentence = "";
+    private static int askedOfSentence = 1;
 
     interface Call {
         Object answer();
@@ -15,13 +20,40 @@ final class Check {
 
     static void due(String what, Object want, Call call) {
         asked++;
+        askedOfSentence++;
         Object got = answerOf(call);
         if (!want.equals(got)) {
-            wrong++;
-            if (wrong < 50) {
-                System.out.println(what + " answered " + got + ", due is " + want);
-            }
+            fault(what + " answered " + part(got, want) + ", due is " + part(want, got));
         }
+    }
+
+    /** A long answer is told from a little before the place where it differs from the other. */
+    private static String part(Object answer, Object other) {
+        String told = String.valueOf(answer);
+        String otherTold = String.valueOf(other);
+        int same = 0;
+        while (same < told.length() && same < otherTold.length() && told.charAt(same) == otherTold.charAt(same)) {
+            same++;
+        }
+        int from = Math.max(0, same - 60);
+        int end = Math.min(told.length(), same + 60);
+        return (from > 0 ? ".." : "") + told.substring(from, end) + (end < told.length() ? ".." : "");
+    }
+
+    private static void fault(String told) {
+        wrong++;
+        if (wrong < 50) {
+            System.out.println(sentence.isEmpty() ? told : "\"" + sentence + "\": " + told);
+        }
+    }
+
+    /** The answers from here on show whether this sentence of the document holds; a sentence without any is a fault. */
+    static void says(String itsSentence) {
+        if (askedOfSentence == 0) {
+            fault("nothing was asked");
+        }
+        sentence = itsSentence;
+        askedOfSentence = 0;
     }
 
     static void refused(String what, Call call) {
@@ -30,6 +62,34 @@ final class Check {
 
     static void missing(String what, Call call) {
         due(what, "throws.NoSuchElementException", call);
+    }
+
+    /** A call that answers anything but an exception. */
+    static void found(String what, Call call) {
+        due(what + " throws nothing", false, () -> answerOf(call) instanceof String);
+    }
+
+    /** A call that answers so and changes nothing, the undo history included. */
+    static void idle(DriverHost host, String what, Object want, Call call) {
+        String before = everything(host);
+        due(what, want, call);
+        due(what + " changes nothing", before, () -> everything(host));
+    }
+
+    private static String everything(DriverHost host) {
+        return all(host) + " undo " + host.undoCount() + " error " + host.errorPosition();
+    }
+
+    static void accepts(String text, int commands) {
+        DriverHost host = new DriverHost();
+        due("load of " + text, commands, () -> load(host, text));
+        due("errorPosition after " + text, -1, host::errorPosition);
+    }
+
+    static void rejects(String text, int code, int position) {
+        DriverHost host = new DriverHost();
+        due("load of " + text, -10 - code, () -> load(host, text));
+        due("errorPosition after " + text, position, host::errorPosition);
     }
 
     /** The answer, or the name of the exception; one that no promise names shows by its name. */
@@ -121,6 +181,7 @@ final class Check {
     }
 
     static void close(String name) {
+        says("");
         System.out.println(name + ": " + (asked - wrong) + " of " + asked + " answers are as due");
         if (wrong > 0 || asked == 0) {
             System.exit(1);

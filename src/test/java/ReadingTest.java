@@ -28,18 +28,6 @@ public final class ReadingTest {
         Check.close("ReadingTest");
     }
 
-    private static void error(String text, int code, int position) {
-        DriverHost host = new DriverHost();
-        Check.due("load of " + text, -10 - code, () -> Check.load(host, text));
-        Check.due("errorPosition after " + text, position, host::errorPosition);
-    }
-
-    private static void fine(String text, int commands) {
-        DriverHost host = new DriverHost();
-        Check.due("load of " + text, commands, () -> Check.load(host, text));
-        Check.due("errorPosition after " + text, -1, host::errorPosition);
-    }
-
     private static void promise1NewObject() {
         DriverHost host = new DriverHost();
         Check.due("new driverCount", 1, host::driverCount);
@@ -251,33 +239,33 @@ public final class ReadingTest {
     }
 
     private static void tokens() {
-        fine("drivers1;", 0);
-        fine("  drivers\n\n 0001 \n;\n", 0);
-        fine("drivers 1;command a check reg0=1 time1set0=1keep0=1;", 1);
-        fine("drivers 1;command a pure time 1 result 1+2-3*(reg 0-arg)set 0=res keep 1=res*var 3;", 1);
-        fine("drivers 1;command a check [not 1<2 or 1>2]and arg=reg 7 time 1;", 1);
-        error("drivers\t1;", 1, 7);
-        error("Drivers 1;", 1, 0);
-        error("drivers 1;\r", 1, 10);
-        error("drivers 1;\0", 1, 10);
-        error("drivers 1\u00e9;", 1, 9);
-        error("drivers 1;{", 1, 10);
-        error("drivers 1;calm 1a;", 1, 16);
-        error("drivers 1;calmer 1;", 1, 10);
-        error("drivers 1;calm -1;", 1, 15);
-        error("drivers 1;calm 1;;", 1, 17);
-        error("drivers 5\u00e9;", 2, 8);
-        error("drivers one;", 1, 8);
-        error("drivers 1,", 1, 9);
-        error("drivers 1;drivers 1;", 1, 10);
+        Check.accepts("drivers1;", 0);
+        Check.accepts("  drivers\n\n 0001 \n;\n", 0);
+        Check.accepts("drivers 1;command a check reg0=1 time1set0=1keep0=1;", 1);
+        Check.accepts("drivers 1;command a pure time 1 result 1+2-3*(reg 0-arg)set 0=res keep 1=res*var 3;", 1);
+        Check.accepts("drivers 1;command a check [not 1<2 or 1>2]and arg=reg 7 time 1;", 1);
+        Check.rejects("drivers\t1;", 1, 7);
+        Check.rejects("Drivers 1;", 1, 0);
+        Check.rejects("drivers 1;\r", 1, 10);
+        Check.rejects("drivers 1;\0", 1, 10);
+        Check.rejects("drivers 1\u00e9;", 1, 9);
+        Check.rejects("drivers 1;{", 1, 10);
+        Check.rejects("drivers 1;calm 1a;", 1, 16);
+        Check.rejects("drivers 1;calmer 1;", 1, 10);
+        Check.rejects("drivers 1;calm -1;", 1, 15);
+        Check.rejects("drivers 1;calm 1;;", 1, 17);
+        Check.rejects("drivers 5\u00e9;", 2, 8);
+        Check.rejects("drivers one;", 1, 8);
+        Check.rejects("drivers 1,", 1, 9);
+        Check.rejects("drivers 1;drivers 1;", 1, 10);
     }
 
     private static void ranges() {
-        error("drivers 0;", 2, 8);
-        error("drivers 5;", 2, 8);
-        error("drivers 99999999999999999999;", 2, 8);
-        error("drivers 4294967297;", 2, 8);
-        fine("drivers 00000000000000000000000000000004;", 0);
+        Check.rejects("drivers 0;", 2, 8);
+        Check.rejects("drivers 5;", 2, 8);
+        Check.rejects("drivers 99999999999999999999;", 2, 8);
+        Check.rejects("drivers 4294967297;", 2, 8);
+        Check.accepts("drivers 00000000000000000000000000000004;", 0);
         bounds("calm ", 1, 1000);
         bounds("streak ", 0, 20);
         bounds("poison ", 1, 20);
@@ -285,10 +273,10 @@ public final class ReadingTest {
         bounds("handover ", 1, 50);
         bounds("delay 1 ", 1, 1000);
         bounds("delay 100 ", 100, 1000);
-        fine("drivers 1;delay 100 100;", 0);
-        error("drivers 1;delay 101 100;", 2, 16);
-        error("drivers 1;delay 0 100;", 2, 16);
-        error("drivers 1;delay 5;", 1, 17);
+        Check.accepts("drivers 1;delay 100 100;", 0);
+        Check.rejects("drivers 1;delay 101 100;", 2, 16);
+        Check.rejects("drivers 1;delay 0 100;", 2, 16);
+        Check.rejects("drivers 1;delay 5;", 1, 17);
         inCommand("command a pure time ", 1, 50, ";");
         inCommand("command a pure time 1 set ", 0, 7, "=1;");
         inCommand("command a pure time 1 keep ", 0, 3, "=1;");
@@ -300,99 +288,99 @@ public final class ReadingTest {
 
     private static void bounds(String before, int low, int high) {
         String start = "drivers 1;" + before;
-        fine(start + low + ";", 0);
-        fine(start + high + ";", 0);
-        error(start + (high + 1) + ";", 2, start.length());
+        Check.accepts(start + low + ";", 0);
+        Check.accepts(start + high + ";", 0);
+        Check.rejects(start + (high + 1) + ";", 2, start.length());
         if (low > 0) {
-            error(start + (low - 1) + ";", 2, start.length());
+            Check.rejects(start + (low - 1) + ";", 2, start.length());
         }
-        error(start + ";", 1, start.length());
-        error(start + low + " " + low + ";", 1, (start + low).length() + 1);
+        Check.rejects(start + ";", 1, start.length());
+        Check.rejects(start + low + " " + low + ";", 1, (start + low).length() + 1);
     }
 
     private static void inCommand(String before, int low, int high, String after) {
         String start = "drivers 1;" + before;
-        fine(start + low + after, 1);
-        fine(start + high + after, 1);
-        error(start + (high + 1) + after, 2, start.length());
-        error(start + "4294967296" + after, 2, start.length());
+        Check.accepts(start + low + after, 1);
+        Check.accepts(start + high + after, 1);
+        Check.rejects(start + (high + 1) + after, 2, start.length());
+        Check.rejects(start + "4294967296" + after, 2, start.length());
         if (low > 0) {
-            error(start + (low - 1) + after, 2, start.length());
+            Check.rejects(start + (low - 1) + after, 2, start.length());
         }
     }
 
     private static void places() {
         String start = "drivers 1;command a pure time 1 ";
         int at = start.length();
-        error(start + "result res;", 1, at + 7);
-        error(start + "result 1+res;", 1, at + 9);
-        fine(start + "result reg 0+var 0+arg;", 1);
-        fine(start + "set 0=reg 0+var 0+arg+res;", 1);
-        fine(start + "keep 0=var 0+arg+res;", 1);
-        error(start + "keep 0=reg 0;", 1, at + 7);
-        error(start + "keep 0=(1+(reg 0));", 1, at + 11);
-        error(start + "keep 0=1 set 0=1;", 1, at + 9);
-        error(start + "set 0=1 result 1;", 1, at + 8);
-        error(start + "result 1 result 1;", 1, at + 9);
-        error(start + "set 0<1;", 1, at + 5);
-        error(start + "result;", 1, at + 6);
-        error(start + "result [1];", 1, at + 7);
-        error(start + "result 1=1;", 1, at + 8);
-        error(start + "result -1;", 1, at + 7);
-        error(start + "result 1 2;", 1, at + 9);
-        error(start + "result 1+;", 1, at + 9);
-        error(start + "result (1;", 1, at + 9);
+        Check.rejects(start + "result res;", 1, at + 7);
+        Check.rejects(start + "result 1+res;", 1, at + 9);
+        Check.accepts(start + "result reg 0+var 0+arg;", 1);
+        Check.accepts(start + "set 0=reg 0+var 0+arg+res;", 1);
+        Check.accepts(start + "keep 0=var 0+arg+res;", 1);
+        Check.rejects(start + "keep 0=reg 0;", 1, at + 7);
+        Check.rejects(start + "keep 0=(1+(reg 0));", 1, at + 11);
+        Check.rejects(start + "keep 0=1 set 0=1;", 1, at + 9);
+        Check.rejects(start + "set 0=1 result 1;", 1, at + 8);
+        Check.rejects(start + "result 1 result 1;", 1, at + 9);
+        Check.rejects(start + "set 0<1;", 1, at + 5);
+        Check.rejects(start + "result;", 1, at + 6);
+        Check.rejects(start + "result [1];", 1, at + 7);
+        Check.rejects(start + "result 1=1;", 1, at + 8);
+        Check.rejects(start + "result -1;", 1, at + 7);
+        Check.rejects(start + "result 1 2;", 1, at + 9);
+        Check.rejects(start + "result 1+;", 1, at + 9);
+        Check.rejects(start + "result (1;", 1, at + 9);
         String check = "drivers 1;command a check ";
         at = check.length();
-        error(check + "var 0=1 time 1;", 1, at);
-        error(check + "res=1 time 1;", 1, at);
-        error(check + "1=res time 1;", 1, at + 2);
-        error(check + "time 1;", 1, at);
-        error(check + "1 time 1;", 1, at + 2);
-        error(check + "1=2=3 time 1;", 1, at + 3);
-        error(check + "(1=2) time 1;", 1, at + 2);
-        error(check + "[1]=2 time 1;", 1, at + 2);
-        error(check + "1=1 or time 1;", 1, at + 7);
-        error(check + "1=1 not 1=1 time 1;", 1, at + 4);
-        fine(check + "(1+2)*3=arg and not not reg 0<1 or [1=1] time 1;", 1);
-        error("drivers 1;command a time 1;", 1, 20);
-        error("drivers 1;command a pure 1;", 1, 25);
-        error("drivers 1;command a pure pure time 1;", 1, 25);
+        Check.rejects(check + "var 0=1 time 1;", 1, at);
+        Check.rejects(check + "res=1 time 1;", 1, at);
+        Check.rejects(check + "1=res time 1;", 1, at + 2);
+        Check.rejects(check + "time 1;", 1, at);
+        Check.rejects(check + "1 time 1;", 1, at + 2);
+        Check.rejects(check + "1=2=3 time 1;", 1, at + 3);
+        Check.rejects(check + "(1=2) time 1;", 1, at + 2);
+        Check.rejects(check + "[1]=2 time 1;", 1, at + 2);
+        Check.rejects(check + "1=1 or time 1;", 1, at + 7);
+        Check.rejects(check + "1=1 not 1=1 time 1;", 1, at + 4);
+        Check.accepts(check + "(1+2)*3=arg and not not reg 0<1 or [1=1] time 1;", 1);
+        Check.rejects("drivers 1;command a time 1;", 1, 20);
+        Check.rejects("drivers 1;command a pure 1;", 1, 25);
+        Check.rejects("drivers 1;command a pure pure time 1;", 1, 25);
     }
 
     private static void names() {
         for (String word : QUOTED.split(" ")) {
-            error("drivers 1;command " + word + " pure time 1;", 1, 18);
-            fine("drivers 1;command " + word + "x pure time 1;", 1);
-            fine("drivers 1;command z" + word.substring(1) + " pure time 1;", 1);
-            fine("drivers 1;command " + word.substring(0, word.length() - 1) + "z pure time 1;", 1);
+            Check.rejects("drivers 1;command " + word + " pure time 1;", 1, 18);
+            Check.accepts("drivers 1;command " + word + "x pure time 1;", 1);
+            Check.accepts("drivers 1;command z" + word.substring(1) + " pure time 1;", 1);
+            Check.accepts("drivers 1;command " + word.substring(0, word.length() - 1) + "z pure time 1;", 1);
         }
-        fine("drivers 1;command register pure time 1;command variable pure time 1;command n once time 1;", 3);
-        fine("drivers 1;command a pure time 1;command aa pure time 1;command b pure time 1;", 3);
-        error("drivers 1;command aa pure time 1;command b pure time 1;command aa", 4, 63);
-        error("drivers 1;command aa pure time 1;command aa\npure time 1;", 4, 41);
-        fine("drivers 1;command a pure time 1;command z pure time 1;command az pure time 1;", 3);
-        error("drivers 1;command az pure time 1;command az", 4, 41);
-        error("drivers 1;command 7 pure time 1;", 1, 18);
-        error("zrivers 1;", 1, 0);
+        Check.accepts("drivers 1;command register pure time 1;command variable pure time 1;command n once time 1;", 3);
+        Check.accepts("drivers 1;command a pure time 1;command aa pure time 1;command b pure time 1;", 3);
+        Check.rejects("drivers 1;command aa pure time 1;command b pure time 1;command aa", 4, 63);
+        Check.rejects("drivers 1;command aa pure time 1;command aa\npure time 1;", 4, 41);
+        Check.accepts("drivers 1;command a pure time 1;command z pure time 1;command az pure time 1;", 3);
+        Check.rejects("drivers 1;command az pure time 1;command az", 4, 41);
+        Check.rejects("drivers 1;command 7 pure time 1;", 1, 18);
+        Check.rejects("zrivers 1;", 1, 0);
     }
 
     private static void brackets() {
         String start = "drivers 1;command a pure time 1 result ";
-        fine(start + "((((((1))))));", 1);
-        fine(start + "((((((1))))))+((((((1))))));", 1);
-        error(start + "(((((((1)))))));", 3, start.length() + 6);
-        error(start + "1((((((1))))));", 1, start.length() + 1);
+        Check.accepts(start + "((((((1))))));", 1);
+        Check.accepts(start + "((((((1))))))+((((((1))))));", 1);
+        Check.rejects(start + "(((((((1)))))));", 3, start.length() + 6);
+        Check.rejects(start + "1((((((1))))));", 1, start.length() + 1);
         String check = "drivers 1;command a check ";
-        fine(check + "not not not not not not 1=1 time 1;", 1);
-        fine(check + "not not not not not not 1=1 and not not not not not not 1=1 time 1;", 1);
-        error(check + "not not not not not not not 1=1 time 1;", 3, check.length() + 24);
-        fine(check + "not [not [((1))=((1))]] time 1;", 1);
-        error(check + "not [not [not [(1)=1]]] time 1;", 3, check.length() + 15);
-        error(check + "[[[[[[[1=1]]]]]]] time 1;", 3, check.length() + 6);
-        error(check + "not not not not not not [1=1] time 1;", 3, check.length() + 24);
-        error(check + "not not not [ ((( 1 ))) = 1 ] time 1;", 3, check.length() + 16);
-        fine(check + "[[[[[[1=1]]]]]] time 1 result ((((((1)))))) set 0=((((((1)))))) keep 0=((((((1))))));", 1);
+        Check.accepts(check + "not not not not not not 1=1 time 1;", 1);
+        Check.accepts(check + "not not not not not not 1=1 and not not not not not not 1=1 time 1;", 1);
+        Check.rejects(check + "not not not not not not not 1=1 time 1;", 3, check.length() + 24);
+        Check.accepts(check + "not [not [((1))=((1))]] time 1;", 1);
+        Check.rejects(check + "not [not [not [(1)=1]]] time 1;", 3, check.length() + 15);
+        Check.rejects(check + "[[[[[[[1=1]]]]]]] time 1;", 3, check.length() + 6);
+        Check.rejects(check + "not not not not not not [1=1] time 1;", 3, check.length() + 24);
+        Check.rejects(check + "not not not [ ((( 1 ))) = 1 ] time 1;", 3, check.length() + 16);
+        Check.accepts(check + "[[[[[[1=1]]]]]] time 1 result ((((((1)))))) set 0=((((((1)))))) keep 0=((((((1))))));", 1);
     }
 
     private static void ninthCommand() {
@@ -400,15 +388,15 @@ public final class ReadingTest {
         for (int n = 0; n < 8; n++) {
             text.append("command ").append((char) ('a' + n)).append(" pure time 1;");
         }
-        fine(text + "calm 1;", 8);
-        error(text + "command a pure time 1;", 3, text.length());
-        error(text + "command", 3, text.length());
-        error(text + "calm command;", 1, text.length() + 5);
+        Check.accepts(text + "calm 1;", 8);
+        Check.rejects(text + "command a pure time 1;", 3, text.length());
+        Check.rejects(text + "command", 3, text.length());
+        Check.rejects(text + "calm command;", 1, text.length() + 5);
     }
 
     private static void earlyEnds() {
         String text = "drivers 1;command a check [reg 1=(arg)] time 1 result var 0 set 0=res keep 0=1;delay 1 2;";
-        fine(text, 1);
+        Check.accepts(text, 1);
         for (int length = 0; length < text.length(); length++) {
             String part = text.substring(0, length);
             if (part.endsWith(";")) {
@@ -417,8 +405,8 @@ public final class ReadingTest {
             boolean insideWord = !part.isEmpty() && text.charAt(length) >= 'a' && text.charAt(length) <= 'z'
                     && part.charAt(length - 1) >= 'a' && part.charAt(length - 1) <= 'z';
             if (!insideWord) {
-                error(part, 1, length);
-                error(part + " \n ", 1, length + 3);
+                Check.rejects(part, 1, length);
+                Check.rejects(part + " \n ", 1, length + 3);
             }
         }
     }
@@ -428,17 +416,17 @@ public final class ReadingTest {
     }
 
     private static void wholeBuffers() {
-        fine(filled("drivers 1;", "calm 7;"), 0);
-        error(filled("drivers 1;", "calm 12"), 1, 900);
-        error(filled("drivers 1;", "calm 1001"), 2, 896);
-        error(filled("drivers 1;", "calm"), 1, 900);
-        error(filled("drivers 1;", "command res"), 1, 897);
-        error(filled("drivers 1;", "command rest"), 1, 900);
+        Check.accepts(filled("drivers 1;", "calm 7;"), 0);
+        Check.rejects(filled("drivers 1;", "calm 12"), 1, 900);
+        Check.rejects(filled("drivers 1;", "calm 1001"), 2, 896);
+        Check.rejects(filled("drivers 1;", "calm"), 1, 900);
+        Check.rejects(filled("drivers 1;", "command res"), 1, 897);
+        Check.rejects(filled("drivers 1;", "command rest"), 1, 900);
         StringBuilder commands = new StringBuilder("drivers 1;");
         for (int n = 0; n < 8; n++) {
             commands.append("command ").append((char) ('a' + n)).append(" pure time 1;");
         }
-        error(filled(commands.toString(), "command"), 3, 893);
+        Check.rejects(filled(commands.toString(), "command"), 3, 893);
         StringBuilder sum = new StringBuilder("drivers 1;command a pure time 1 result 1");
         while (sum.length() < 894) {
             sum.append("+1");
