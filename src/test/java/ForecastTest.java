@@ -47,7 +47,7 @@ public final class ForecastTest {
     }
 
     private static void promise36Edges() {
-        DriverHost host = Check.loaded("drivers 1;command a again time 50;delay 100 1000;calm 1000;streak 20;poison 20;");
+        DriverHost host = Check.loaded("drivers 1;command a again time 50;");
         for (int n = 0; n < 30; n++) {
             host.submit(0, 0, 0, 0, 0);
         }

@@ -17,6 +17,7 @@ public final class Promises19To35Test {
         queued();
         request();
         requestRemainingTime();
+        requestFailureAndResult();
         requestEnd();
         recordCountAndRecord();
         total();
@@ -222,7 +223,8 @@ public final class Promises19To35Test {
 
     private static void request() {
         Check.says("Returns one property of a request.");
-        DriverHost host = Check.loaded("drivers 4;command p pure time 1;command a again time 3 result arg*2;delay 1 1;");
+        DriverHost host = Check.loaded("drivers 4;command p pure time 1;command a again time 3 result arg*2;"
+                + "delay 1 1;");
         host.run(6);
         host.submit(3, 1, -7, 2, 99);
         host.plan(0, 2, 2);
@@ -255,7 +257,10 @@ public final class Promises19To35Test {
     }
 
     private static void requestRemainingTime() {
-        Check.says("Returns one property of a request.");
+        Check.says("- `what`: 0 driver, 1 command, 2 argument, 3 priority, 4 time limit, 5 clock of its acceptance, 6"
+                + " state, 7 failure (0 if it has not failed), 8 result (0 if it is not completed), 9 executions, 10"
+                + " crashes, 11 remaining time (0 if it is not in flight at a running driver), 12 point of its plan, 13"
+                + " times of its plan, 14 the clock at which it was completed or failed (NONE if it was not)");
         DriverHost host = Check.loaded("drivers 1;command a again time 50;delay 1 1;");
         host.submit(0, 0, 0, 0, 0);
         Check.due("queued", 0, () -> host.request(0, 11));
@@ -273,8 +278,21 @@ public final class Promises19To35Test {
         Check.due("completed", 0, () -> host.request(0, 11));
     }
 
+    private static void requestFailureAndResult() {
+        DriverHost host = Check.loaded("drivers 1;command a again time 1 result arg;poison 1;");
+        host.submit(0, 0, 6, 0, 0);
+        host.submit(0, 0, 7, 0, 0);
+        host.plan(1, 2, 1);
+        Check.due("queued", 0, () -> host.request(0, 7) + host.request(0, 8));
+        host.run(2);
+        Check.due("no failure of a completed one", 0, () -> host.request(0, 7));
+        Check.due("the result of a completed one", 6, () -> host.request(0, 8));
+        Check.due("the failure of a failed one", 3, () -> host.request(1, 7));
+        Check.due("no result of a failed one, though its effect was done", 10,
+                () -> host.request(1, 8) + host.request(1, 9) * 10);
+    }
+
     private static void requestEnd() {
-        Check.says("Returns one property of a request.");
         DriverHost host = Check.loaded("drivers 2;command a again time 1;streak 0;");
         host.submit(0, 0, 0, 0, 0);
         host.submit(0, 0, 0, 0, 0);
@@ -299,7 +317,7 @@ public final class Promises19To35Test {
         host.run(4);
         host.submit(1, 0, 0, 0, 0);
         Check.due("one", 1, host::recordCount);
-        Check.says("Returns one property of a record.");
+        Check.says("- `what`: 0 clock, 1 event, 2 driver, 3 request (NONE if there is none)");
         int[] first = {4, 0, 1, 0};
         for (int what = 0; what < 4; what++) {
             int asked = what;
@@ -322,6 +340,7 @@ public final class Promises19To35Test {
         for (int n = 0; n < 300; n++) {
             host.takeSnapshot(n % 2);
         }
+        Check.says("- `record`: its index among the kept records, from 0 for the oldest one");
         Check.due("recordCount", 200, host::recordCount);
         Check.due("the oldest", 0, () -> host.record(0, 2));
         Check.due("the newest", 1, () -> host.record(199, 2));
@@ -349,6 +368,8 @@ public final class Promises19To35Test {
         for (int wrong : new int[] {-1, 9, 10, Check.LEAST, Check.GREATEST}) {
             Check.due("total " + wrong, -1, () -> host.total(wrong));
         }
+        Check.says("- `what`: the number of events of this kind, 0 to 8 (section 6)");
+        Check.due("the first kind", 2, () -> host.total(0));
         Check.due("the last kind", 0, () -> host.total(8));
         Check.load(host, "drivers 1;");
         Check.due("a new text", 0, () -> host.total(6));

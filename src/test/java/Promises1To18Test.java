@@ -115,6 +115,12 @@ public final class Promises1To18Test {
 
     private static void load() {
         Check.says("Reads the first bytes of the buffer as a text, which replaces everything.");
+        Check.due("everything", Check.all(Check.loaded("drivers 2;")), () -> {
+            DriverHost busy = busy();
+            Check.load(busy, "drivers 2;");
+            return Check.all(busy);
+        });
+        Check.says("- `length`: number of bytes to read");
         DriverHost host = new DriverHost();
         Check.feed(host, "drivers 1;calm 7;\u00e9");
         Check.due("ten bytes", 0, () -> host.load(10));
@@ -260,7 +266,8 @@ public final class Promises1To18Test {
             Check.due("driverCount", drivers, host::driverCount);
         }
         Check.says("Returns the number of commands.");
-        Check.due("commandCount", 2, Check.loaded("drivers 1;command a pure time 1;command b pure time 1;")::commandCount);
+        Check.due("commandCount", 2,
+                Check.loaded("drivers 1;command a pure time 1;command b pure time 1;")::commandCount);
         DriverHost host = Check.loaded("drivers 1;command a pure time 1;");
         Check.says("Returns the number of requests.");
         for (int n = 0; n < 3; n++) {

@@ -51,7 +51,7 @@ public final class Promises36To43Test {
     private static void forecastEdges() {
         Check.says("Returns the least number of ticks, 0 to 1000, after which it is (0 if it is so now); NONE if there"
                 + " is none, or the clock would exceed 1000000 before.");
-        DriverHost host = Check.loaded("drivers 1;command a again time 50;command b again time 1;command c again time 49;");
+        DriverHost host = Check.loaded("drivers 1;command a again time 50;command b again time 1;");
         for (int n = 0; n < 20; n++) {
             host.submit(0, 0, 0, 3, 0);
         }
@@ -69,7 +69,7 @@ public final class Promises36To43Test {
         Check.due("one tick later", 1000, () -> host.forecast(22));
         host.run(1000);
         Check.due("over", 0, () -> host.forecast(20) + host.forecast(21));
-        DriverHost down = Check.loaded("drivers 1;command a again time 1;delay 100 1000;streak 20;calm 1000;poison 20;");
+        DriverHost down = Check.loaded("drivers 1;command a again time 1;delay 100 1000;streak 20;calm 1000;");
         for (int n = 0; n < 4; n++) {
             down.kill(0);
             down.run(1000);
@@ -377,6 +377,7 @@ public final class Promises36To43Test {
             Check.idle(host, "query(" + length + ") of 180", REFUSED, () -> host.query(length));
         }
         Check.due("query(180) of 180", 0, () -> host.query(180));
+        Check.says("- `length`: number of bytes to read, at most 200");
         Check.feed(host, "many 1=1" + " ".repeat(892));
         for (int length : new int[] {-1, 201, 900, 901, Check.LEAST, Check.GREATEST}) {
             Check.idle(host, "query(" + length + ") of 900", REFUSED, () -> host.query(length));

@@ -380,7 +380,8 @@ public final class ReadingTest {
         Check.rejects(check + "[[[[[[[1=1]]]]]]] time 1;", 3, check.length() + 6);
         Check.rejects(check + "not not not not not not [1=1] time 1;", 3, check.length() + 24);
         Check.rejects(check + "not not not [ ((( 1 ))) = 1 ] time 1;", 3, check.length() + 16);
-        Check.accepts(check + "[[[[[[1=1]]]]]] time 1 result ((((((1)))))) set 0=((((((1)))))) keep 0=((((((1))))));", 1);
+        Check.accepts(check + "[[[[[[1=1]]]]]] time 1 result ((((((1)))))) set 0=((((((1)))))) keep 0=((((((1))))));",
+                1);
     }
 
     private static void ninthCommand() {

@@ -19,6 +19,8 @@ public final class Section7Test {
         numbersOfCommands();
         delayRange();
         wrongForms();
+        wrongTests();
+        wrongSums();
         brackets();
         places();
         fromLeftToRight();
@@ -197,6 +199,8 @@ public final class Section7Test {
     }
 
     private static void wrongForms() {
+        Check.says("text: 'drivers' n (1 to 4) ';' clause*");
+        Check.accepts("drivers 1;", 0);
         Check.rejects("calm 7;drivers 1;", 1, 0);
         Check.rejects("drivers 1;drivers 1;", 1, 10);
         Check.rejects("drivers 1;;", 1, 10);
@@ -205,7 +209,8 @@ public final class Section7Test {
         Check.rejects("drivers 1 calm 7;", 1, 10);
         Check.rejects("drivers 1;time 7;", 1, 10);
         Check.rejects("drivers 1;pure;", 1, 10);
-        Check.rejects("drivers 1;command a time 1;", 1, 20);
+        Check.says("clause: 'command' NAME class 'time' n (1 to 50) ['result' sum] ('set' register (0 to 7) '=' sum)*"
+                + " ('keep' variable (0 to 3) '=' sum)* ';'");
         Check.rejects("drivers 1;command a pure;", 1, 24);
         Check.rejects("drivers 1;command a pure result 1;", 1, 25);
         Check.rejects(START + "keep 0=1 set 0=1;", 1, START.length() + 9);
@@ -213,18 +218,60 @@ public final class Section7Test {
         Check.rejects(START + "result 1 result 1;", 1, START.length() + 9);
         Check.rejects(START + "set 0 1;", 1, START.length() + 6);
         Check.rejects(START + "set=1;", 1, START.length() + 3);
-        Check.rejects(START + "result;", 1, START.length() + 6);
-        Check.rejects(START + "result 1+;", 1, START.length() + 9);
-        Check.rejects(START + "result +1;", 1, START.length() + 7);
-        Check.rejects(START + "result 1*;", 1, START.length() + 9);
-        Check.rejects(START + "result ();", 1, START.length() + 8);
-        Check.rejects(START + "result (1;", 1, START.length() + 9);
-        Check.rejects(START + "result 1);", 1, START.length() + 8);
-        Check.rejects(START + "result 1=1;", 1, START.length() + 8);
-        Check.rejects(START + "result reg;", 1, START.length() + 10);
-        Check.rejects(START + "result reg(1);", 1, START.length() + 10);
         Check.rejects(START + "time 1;", 1, START.length());
+        Check.accepts(START + "set 0=1 set 0=1 set 0=1 keep 0=1 keep 0=1 keep 0=1;", 1);
+        Check.says("class: 'pure' | 'again' | 'once' | 'check' test");
+        Check.rejects("drivers 1;command a time 1;", 1, 20);
+        Check.rejects("drivers 1;command a pure again time 1;", 1, 25);
         Check.rejects("drivers 1;command a pure 1=1 time 1;", 1, 25);
+        Check.rejects("drivers 1;command a check time 1;", 1, 26);
+        Check.rejects("drivers 1;command a some time 1;", 1, 20);
+    }
+
+    private static void wrongTests() {
+        Check.says("test: conjunction ('or' conjunction)*");
+        Check.accepts(CHECK + "1=1" + " or 1=1".repeat(100) + " time 1;", 1);
+        Check.rejects(CHECK + "1=1 or time 1;", 1, CHECK.length() + 7);
+        Check.rejects(CHECK + "or 1=1 time 1;", 1, CHECK.length());
+        Check.says("conjunction: factor ('and' factor)*");
+        Check.accepts(CHECK + "1=1" + " and 1=1".repeat(100) + " time 1;", 1);
+        Check.rejects(CHECK + "1=1 and or 1=1 time 1;", 1, CHECK.length() + 8);
+        Check.rejects(CHECK + "1=1 1=1 time 1;", 1, CHECK.length() + 4);
+        Check.says("factor: 'not' factor | '[' test ']' | sum ('<' | '=' | '>') sum");
+        Check.rejects(CHECK + "not time 1;", 1, CHECK.length() + 4);
+        Check.rejects(CHECK + "1 time 1;", 1, CHECK.length() + 2);
+        Check.rejects(CHECK + "1+2 time 1;", 1, CHECK.length() + 4);
+        Check.rejects(CHECK + "1= time 1;", 1, CHECK.length() + 3);
+        Check.rejects(CHECK + "1=1=1 time 1;", 1, CHECK.length() + 3);
+        Check.rejects(CHECK + "1<=1 time 1;", 1, CHECK.length() + 2);
+        Check.rejects(CHECK + "=1 time 1;", 1, CHECK.length());
+    }
+
+    private static void wrongSums() {
+        int at = START.length();
+        Check.says("sum: product (('+' | '-') product)*");
+        Check.accepts(START + "result 1" + "+1-1".repeat(200) + ";", 1);
+        Check.rejects(START + "result 1+;", 1, at + 9);
+        Check.rejects(START + "result +1;", 1, at + 7);
+        Check.rejects(START + "result -1;", 1, at + 7);
+        Check.rejects(START + "result 1--1;", 1, at + 9);
+        Check.rejects(START + "result 1=1;", 1, at + 8);
+        Check.rejects(START + "result;", 1, at + 6);
+        Check.says("product: operand ('*' operand)*");
+        Check.accepts(START + "result 1" + "*1".repeat(400) + ";", 1);
+        Check.rejects(START + "result 1*;", 1, at + 9);
+        Check.rejects(START + "result *1;", 1, at + 7);
+        Check.rejects(START + "result 1*+1;", 1, at + 9);
+        Check.says("operand: number (0 to 65535) | 'reg' n (0 to 7) | 'var' n (0 to 3) | 'arg' | 'res' | '(' sum ')'");
+        Check.rejects(START + "result ();", 1, at + 8);
+        Check.rejects(START + "result (1;", 1, at + 9);
+        Check.rejects(START + "result 1);", 1, at + 8);
+        Check.rejects(START + "result reg;", 1, at + 10);
+        Check.rejects(START + "result reg(1);", 1, at + 10);
+        Check.rejects(START + "result arg 1;", 1, at + 11);
+        Check.rejects(START + "result 1 arg;", 1, at + 9);
+        Check.rejects(START + "result set;", 1, at + 7);
+        Check.rejects(START + "result name;", 1, at + 7);
     }
 
     private static void brackets() {
@@ -396,7 +443,8 @@ public final class Section7Test {
         Check.accepts(text, 1);
         for (int end = 0; end < text.length(); end++) {
             String part = text.substring(0, end);
-            boolean inside = end > 0 && Character.isLetter(text.charAt(end)) && Character.isLetter(text.charAt(end - 1));
+            boolean inside = end > 0 && Character.isLetter(text.charAt(end))
+                    && Character.isLetter(text.charAt(end - 1));
             if (part.trim().endsWith(";")) {
                 Check.accepts(part, part.contains("keep") ? 1 : 0);
             } else if (!inside) {

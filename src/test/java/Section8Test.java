@@ -167,22 +167,38 @@ public final class Section8Test {
         Check.due("argument>result", 1, () -> Check.query(host, "many argument>result"));
     }
 
-    private static void connectives() {
-        Check.says("criterion: part ('or' part)*");
+    private static void counts(String... criteriaAndCounts) {
         DriverHost host = Check.loaded("drivers 1;command a pure time 1;");
         for (int n = 0; n < 8; n++) {
             host.submit(0, 0, n, 0, 0);
         }
-        String[] criteria = {"argument=1 or argument=2", "argument=1 or argument=2 or argument=5",
-            "argument=1 and argument=1", "argument>1 and argument<6 and argument>3",
-            "argument=1 or argument=2 and argument=3", "(argument=1 or argument=3) and argument=3",
-            "argument=3 and argument=4 or argument=1", "not argument=1", "not not argument=1",
-            "not argument=1 or argument=1", "not (argument=1 or argument=2)", "not argument=1 and argument<4"};
-        int[] counts = {2, 3, 1, 2, 1, 1, 1, 7, 1, 8, 6, 3};
-        for (int n = 0; n < criteria.length; n++) {
-            String criterion = criteria[n];
-            Check.due(criterion, counts[n], () -> Check.query(host, "many " + criterion));
+        for (int n = 0; n < criteriaAndCounts.length; n += 2) {
+            String criterion = criteriaAndCounts[n];
+            int count = Integer.parseInt(criteriaAndCounts[n + 1]);
+            Check.due(criterion, count, () -> Check.query(host, "many " + criterion));
         }
+    }
+
+    private static void connectives() {
+        Check.says("criterion: part ('or' part)*");
+        counts("argument=1 or argument=2", "2", "argument=1 or argument=2 or argument=5", "3",
+                "argument=1 or argument=2 and argument=3", "1", "argument=3 and argument=4 or argument=1", "1");
+        rejects("many 1=1 or", 1, 11);
+        rejects("many or 1=1", 1, 5);
+        Check.says("part: atom ('and' atom)*");
+        counts("argument=1 and argument=1", "1", "argument>1 and argument<6 and argument>3", "2",
+                "(argument=1 or argument=3) and argument=3", "1");
+        rejects("many 1=1 and", 1, 12);
+        rejects("many 1=1 and or 1=1", 1, 13);
+        rejects("many 1=1 1=1", 1, 9);
+        Check.says("atom: 'not' atom | '(' criterion ')' | value ('<' | '=' | '>') value");
+        counts("not argument=1", "7", "not not argument=1", "1", "not argument=1 or argument=1", "8",
+                "not (argument=1 or argument=2)", "6", "not argument=1 and argument<4", "3",
+                "not(argument=1 and argument=2)", "8", "(((argument<3)))", "3", "3>argument", "3", "3<argument", "4");
+        rejects("many not and 1=1", 1, 9);
+        rejects("many ()", 1, 6);
+        rejects("many 1", 1, 6);
+        rejects("many 1<=1", 1, 7);
     }
 
     private static void errorCodeOne() {
@@ -192,7 +208,8 @@ public final class Section8Test {
         accepts(text);
         for (int end = 0; end < text.length(); end++) {
             String part = text.substring(0, end);
-            boolean inside = end > 0 && Character.isLetter(text.charAt(end)) && Character.isLetter(text.charAt(end - 1));
+            boolean inside = end > 0 && Character.isLetter(text.charAt(end))
+                    && Character.isLetter(text.charAt(end - 1));
             if (!inside && !part.trim().endsWith(")")) {
                 rejects(part, 1, end);
                 rejects(part + "\n  ", 1, end + 3);

@@ -168,7 +168,8 @@ public final class Section9Test {
             Check.idle(host, "load(" + length + ")", REFUSED, () -> host.load(length));
             Check.idle(host, "query(" + length + ")", REFUSED, () -> host.query(length));
         }
-        Check.due("the buffer is left", 40, () -> host.feed(0x20202020, 0x20202020, 0x20202020, 0x20202020, 0x20202020));
+        int blanks = 0x20202020;
+        Check.due("the buffer is left", 40, () -> host.feed(blanks, blanks, blanks, blanks, blanks));
         Check.due("and read then", 0, () -> host.load(40));
         Check.due("drivers", 1, host::driverCount);
     }

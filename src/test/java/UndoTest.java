@@ -4,7 +4,8 @@ import java.util.List;
 /** Promises 39 to 42, and section 9: undoing, saving and restoring. */
 public final class UndoTest {
     private static final String TEXT = "drivers 2;command a again time 2 result reg 0+arg set 0=res keep 0=var 0+res;"
-            + "command o once time 1 set 1=arg;command c check reg 1=arg time 1 set 1=arg keep 1=arg;delay 1 4;every 2;";
+            + "command o once time 1 set 1=arg;command c check reg 1=arg time 1 set 1=arg keep 1=arg;delay 1 4;"
+            + "every 2;";
 
     private UndoTest() {
     }
