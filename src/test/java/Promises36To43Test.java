@@ -10,6 +10,7 @@ public final class Promises36To43Test {
         forecast();
         forecastEdges();
         forecastAtTheLastClock();
+        forecastsAreApart();
         bestDelay();
         bestDelayOnATie();
         bestDelayAtTheLastClock();
@@ -98,6 +99,34 @@ public final class Promises36To43Test {
         host.run(4);
         Check.due("at 1000000", 0, () -> host.forecast(1));
         Check.idle(host, "behind 1000000", -1, () -> host.forecast(2));
+        DriverHost last = Check.loaded("drivers 1;command a again time 1;");
+        for (int n = 0; n < 999; n++) {
+            last.run(1000);
+        }
+        last.run(999);
+        last.submit(0, 0, 0, 0, 0);
+        last.submit(0, 0, 0, 0, 0);
+        Check.due("in the last tick", 1, () -> last.forecast(0));
+        Check.idle(last, "in the tick behind it", -1, () -> last.forecast(1));
+        last.run(1);
+        Check.idle(last, "at the last clock", -1, () -> last.forecast(1));
+    }
+
+    /** Neither a trial of a first delay nor another text leaves a mark in a later forecast. */
+    private static void forecastsAreApart() {
+        Check.says("Forecasts on a copy when a request is completed or fails.");
+        DriverHost host = Check.loaded("drivers 1;command a again time 1;delay 3 40;");
+        host.submit(0, 0, 0, 0, 0);
+        host.plan(0, 1, 1);
+        Check.due("forecast", 5, () -> host.forecast(0));
+        host.bestDelay(200);
+        Check.due("forecast after bestDelay", 5, () -> host.forecast(0));
+        Check.load(host, "drivers 2;command a again time 9;delay 7 40;");
+        host.submit(1, 0, 0, 0, 0);
+        host.plan(0, 1, 1);
+        Check.due("forecast after load", 9 + 7 + 9, () -> host.forecast(0));
+        Check.due("not yet", 0, () -> host.run(24));
+        Check.due("as forecast", 1, () -> host.run(1));
     }
 
     /** With a first delay of at least this one, the second request is too late, and the third is not lost with it. */

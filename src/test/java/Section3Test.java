@@ -13,6 +13,7 @@ public final class Section3Test {
         plans();
         nextRequest();
         returnedFirst();
+        returnedFirstThoughAnotherFails();
         oneInFlight();
         Check.close("Section3Test");
     }
@@ -219,6 +220,25 @@ public final class Section3Test {
         Check.due("then the greatest priority", 2, () -> host.nextRequest(0));
         host.run(1);
         Check.due("is begun", 2, () -> host.inFlight(0));
+    }
+
+    /** In the tick of the restart another request is too late; the returned one stays the next all the same. */
+    private static void returnedFirstThoughAnotherFails() {
+        for (int late : new int[] {0, 2}) {
+            DriverHost host = Check.loaded("drivers 1;command a again time 3;delay 1 1;");
+            for (int n = 0; n < 4; n++) {
+                host.submit(0, 0, 0, n == 1 ? 2 : 0, n == late ? 3 : 0);
+            }
+            host.run(1);
+            Check.due("request 1 is in flight", 1, () -> host.inFlight(0));
+            host.submit(0, 0, 0, 3, 0);
+            host.kill(0);
+            host.run(3);
+            Check.due("the other one is too late", 1, () -> host.request(late, 7));
+            Check.due("in the tick of the restart", 3, () -> host.request(late, 14));
+            Check.due("the returned one is begun", 1, () -> host.inFlight(0));
+            Check.due("the next one", 4, () -> host.nextRequest(0));
+        }
     }
 
     private static void oneInFlight() {

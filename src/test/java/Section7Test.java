@@ -19,6 +19,7 @@ public final class Section7Test {
         numbersOfCommands();
         delayRange();
         wrongForms();
+        everyWordInItsPlace();
         wrongTests();
         wrongSums();
         brackets();
@@ -29,6 +30,7 @@ public final class Section7Test {
         firstError();
         smallestCode();
         earlyEnd();
+        bytesBehindTheLength();
         outOfRange();
         ninthCommand();
         seventhOpen();
@@ -226,6 +228,43 @@ public final class Section7Test {
         Check.rejects("drivers 1;command a pure 1=1 time 1;", 1, 25);
         Check.rejects("drivers 1;command a check time 1;", 1, 26);
         Check.rejects("drivers 1;command a some time 1;", 1, 20);
+    }
+
+    /** Each quoted word at the start of a clause, as a class, as an operand, and behind a command's parts. */
+    private static void everyWordInItsPlace() {
+        for (String word : QUOTED.split(" ")) {
+            if (!isOneOf(word, "command delay calm streak poison every handover")) {
+                Check.rejects("drivers 1;" + word + " 5;", 1, 10);
+                Check.rejects("drivers 1;" + word + " a pure time 1;", 1, 10);
+            }
+            if (isOneOf(word, "pure again once")) {
+                Check.accepts("drivers 1;command a " + word + " time 1;", 1);
+            } else if (!word.equals("check")) {
+                Check.rejects("drivers 1;command a " + word + " time 1;", 1, 20);
+            }
+            if (!isOneOf(word, "reg var arg")) {
+                Check.rejects(START + "result " + word + " 1;", 1, START.length() + 7);
+            }
+            if (!isOneOf(word, "reg arg not")) {
+                Check.rejects(CHECK + word + " 1=1 time 1;", 1, CHECK.length());
+            }
+            if (!isOneOf(word, "result set keep")) {
+                Check.rejects(START + word + " 0=1;", 1, START.length());
+            }
+            if (!word.equals("drivers")) {
+                Check.rejects(word + " 1;", 1, 0);
+            }
+            if (!word.equals("time")) {
+                Check.rejects("drivers 1;command a pure " + word + " 1;", 1, 25);
+            }
+            if (!isOneOf(word, "and or time")) {
+                Check.rejects(CHECK + "1=1 " + word + " 1=1 time 1;", 1, CHECK.length() + 4);
+            }
+        }
+    }
+
+    private static boolean isOneOf(String word, String words) {
+        return (" " + words + " ").contains(" " + word + " ");
     }
 
     private static void wrongTests() {
@@ -454,6 +493,23 @@ public final class Section7Test {
         }
         Check.rejects("", 1, 0);
         Check.rejects("drivers 1;command a pure time 1" + " ".repeat(869), 1, 900);
+        for (String end : new String[] {"calm", "calm 1000", "command", "command name", "command name pure"}) {
+            Check.rejects("drivers 1;" + " ".repeat(890 - end.length()) + end, 1, 900);
+        }
+        Check.accepts("drivers 1;" + " ".repeat(883) + "calm 7;", 0);
+    }
+
+    /** What stands in the buffer behind the length does not count. */
+    private static void bytesBehindTheLength() {
+        String[] texts = {"drivers 1;calm 10001;", "drivers 1;calmx", "drivers 1;command arg", "drivers 41;"};
+        int[] lengths = {19, 14, 20, 9};
+        for (int n = 0; n < texts.length; n++) {
+            int length = lengths[n];
+            DriverHost host = new DriverHost();
+            Check.feed(host, texts[n]);
+            Check.due(length + " bytes of " + texts[n], -11, () -> host.load(length));
+            Check.due("errorPosition", length, host::errorPosition);
+        }
     }
 
     private static void outOfRange() {

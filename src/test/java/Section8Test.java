@@ -12,6 +12,7 @@ public final class Section8Test {
         everyByte();
         forms();
         numbers();
+        everyWordInItsPlace();
         properties();
         connectives();
         errorCodeOne();
@@ -138,6 +139,26 @@ public final class Section8Test {
         rejects("many clock=1", 1, 5);
     }
 
+    private static void everyWordInItsPlace() {
+        String others = "drivers command time set keep delay calm streak poison every handover pure again once check or"
+                + " and reg var arg res many first";
+        for (String word : others.split(" ")) {
+            rejects("many " + word + "=1", 1, 5);
+            rejects("many 1=" + word, 1, 7);
+            if (!word.equals("many") && !word.equals("first")) {
+                rejects(word + " 1=1", 1, 0);
+            }
+            if (!word.equals("or") && !word.equals("and")) {
+                rejects("many 1=1 " + word + " 1=1", 1, 9);
+            }
+        }
+        for (String word : PROPERTIES) {
+            accepts("many " + word + "=" + word);
+            rejects(word + " 1=1", 1, 0);
+            rejects("many 1=1 " + word + " 1=1", 1, 9);
+        }
+    }
+
     private static void properties() {
         DriverHost host = Check.loaded("drivers 4;command p pure time 1;command c check 1=2 time 1 result arg;"
                 + "command o once time 50;delay 1 1;poison 2;");
@@ -161,6 +182,14 @@ public final class Section8Test {
                 Check.due(word + "=" + number, counts[1], () -> Check.query(host, "many " + word + "=" + number));
                 Check.due(word + ">" + number, counts[2], () -> Check.query(host, "many " + word + ">" + number));
                 Check.due(number + "<" + word, counts[2], () -> Check.query(host, "many " + number + "<" + word));
+            }
+            for (int request = 0; request < values.length; request++) {
+                int value = values[request][property];
+                if (value >= 0) {
+                    int number = request;
+                    String criterion = "number=" + number + " and " + PROPERTIES[property] + "=" + value;
+                    Check.due(criterion, number, () -> Check.query(host, "first " + criterion));
+                }
             }
         }
         Check.due("argument<result", 2, () -> Check.query(host, "many argument<result"));

@@ -1,6 +1,7 @@
 import java.util.ArrayList;
 import java.util.List;
 import java.util.function.Consumer;
+import java.util.function.IntSupplier;
 
 /** Section 9 of the document, sentence by sentence: operations. */
 public final class Section9Test {
@@ -23,6 +24,8 @@ public final class Section9Test {
         tenMostRecent();
         mostRecentFirst();
         undoRestoresEverything();
+        whatFollowsIsTheSame();
+        aRequestAfterAnUndoneOne();
         Check.close("Section9Test");
     }
 
@@ -230,6 +233,69 @@ public final class Section9Test {
             String story = stories.get(n);
             Check.due("undo", left, host::undo);
             Check.due("everything before run " + n, story, () -> Check.all(host));
+        }
+    }
+
+    /** All that can't be seen at once shows in what follows. */
+    private static void whatFollowsIsTheSame() {
+        DriverHost host = Check.loaded("drivers 2;command a again time 3 result var 0 set 0=reg 0+arg keep 0=var 0+arg;"
+                + "command c check reg 0>20 time 2;delay 1 8;streak 20;calm 7;every 3;poison 4;");
+        for (int n = 0; n < 30; n++) {
+            host.submit(n % 2, n % 5 / 4, n, n % 3, n % 7 * 9);
+            host.plan(n, n % 4 % 3, n % 3);
+            host.run(2);
+            int round = n;
+            List<String> first = played(host, round);
+            Check.due("what follows after " + n, first, () -> played(host, round));
+        }
+    }
+
+    /** Plays some operations, and undoes them. */
+    private static List<String> played(DriverHost host, int round) {
+        List<String> stories = new ArrayList<>();
+        int driver = round % 2;
+        List<IntSupplier> operations = List.of(() -> host.submit(driver, 0, round, 3, 5), () -> host.kill(driver),
+                () -> host.poke(driver, 0, round), () -> host.run(1), () -> host.takeSnapshot(1 - driver),
+                () -> host.run(3), () -> host.run(6), () -> host.run(11));
+        int made = 0;
+        for (IntSupplier operation : operations) {
+            made += operation.getAsInt() >= 0 ? 1 : 0;
+            stories.add(Check.all(host));
+        }
+        for (int undone = 0; undone < made; undone++) {
+            host.undo();
+        }
+        return stories;
+    }
+
+    private static void aRequestAfterAnUndoneOne() {
+        DriverHost host = Check.loaded(TEXT);
+        host.run(3);
+        for (int ticks : new int[] {0, 1, 2, 20}) {
+            host.submit(1, 2, 77, 3, 88);
+            host.plan(0, 2, 9);
+            host.run(ticks);
+            for (int n = 0; n < 3; n++) {
+                host.undo();
+            }
+            Check.due("undone", 0, host::requestCount);
+            Check.due("submit", 0, () -> host.submit(0, 1, 5, 1, 6));
+            int[] fresh = {0, 1, 5, 1, 6, 3, 0, 0, 0, 0, 0, 0, 0, 0, -1};
+            for (int what = 0; what < fresh.length; what++) {
+                int asked = what;
+                Check.due("property " + what + " of the new one", fresh[what], () -> host.request(0, asked));
+            }
+            host.undo();
+        }
+        host.submit(1, 2, 77, 3, 88);
+        host.saveState();
+        host.undo();
+        host.submit(0, 1, 5, 1, 6);
+        host.restoreState();
+        int[] saved = {1, 2, 77, 3, 88, 3, 0, 0, 0, 0, 0, 0, 0, 0, -1};
+        for (int what = 0; what < saved.length; what++) {
+            int asked = what;
+            Check.due("property " + what + " of the saved one", saved[what], () -> host.request(0, asked));
         }
     }
 }

@@ -167,18 +167,23 @@ public final class UndoTest {
         host.run(2);
         Check.due("it is poisoned", 3, () -> host.request(0, 7));
         host.restoreState();
+        submittedAnew("a poisoned one", host);
+        host.run(1);
+        Check.due("it is in flight", 1, () -> host.request(0, 11));
+        host.restoreState();
+        submittedAnew("one in flight", host);
+        host.run(5);
+        Check.due("it is completed", 2, () -> host.request(0, 6));
+        host.restoreState();
+        submittedAnew("a completed one", host);
+    }
+
+    private static void submittedAnew(String lost, DriverHost host) {
         host.submit(0, 0, 1, 0, 0);
         int[] queued = {0, 0, 1, 0, 0, 0, 0, 0, 0, 0, 0, 0, 0, 0, -1};
         for (int what = 0; what < queued.length; what++) {
             int asked = what;
-            Check.due("nothing of the lost request is left", queued[what], () -> host.request(0, asked));
-        }
-        host.run(5);
-        host.restoreState();
-        host.submit(0, 0, 1, 0, 0);
-        for (int what = 0; what < queued.length; what++) {
-            int asked = what;
-            Check.due("nor of the completed one", queued[what], () -> host.request(0, asked));
+            Check.due("property " + what + " after " + lost, queued[what], () -> host.request(0, asked));
         }
     }
 
