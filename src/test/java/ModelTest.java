@@ -224,9 +224,8 @@ public final class ModelTest {
             for (int i = 0; i < commands; i++) {
                 b.append(commandText(i));
             }
-            for (String clause : new String[] {"calm " + (1 + random.nextInt(30)), "streak " + random.nextInt(8),
-                "poison " + (1 + random.nextInt(5)), "every " + (1 + random.nextInt(6)),
-                "handover " + (1 + random.nextInt(9)), delayText()}) {
+            for (String clause : new String[] {"calm " + edge(1, 30, 1000), "streak " + edge(0, 7, 20),
+                "poison " + edge(1, 5, 20), "every " + edge(1, 6, 20), "handover " + edge(1, 9, 50), delayText()}) {
                 if (random.nextBoolean()) {
                     b.append(random.nextBoolean() ? " " : "\n").append(clause).append(';');
                 }
@@ -238,8 +237,20 @@ public final class ModelTest {
     }
 
     private String delayText() {
-        int first = 1 + random.nextInt(8);
-        return "delay " + first + " " + (first + random.nextInt(30));
+        int first = edge(1, 8, 100);
+        return "delay " + first + " " + edge(first, first + 29, 1000);
+    }
+
+    /** Mostly a usual number from the least one on; now and then one at an edge of the range, rarely one beyond it. */
+    private int edge(int low, int usual, int high) {
+        return switch (random.nextInt(60)) {
+            case 0 -> Math.max(0, low - 1);
+            case 1 -> high + 1;
+            case 2, 3, 4 -> high;
+            case 5, 6, 7 -> low;
+            case 8 -> high - 1;
+            default -> low + random.nextInt(usual - low + 1);
+        };
     }
 
     private String commandText(int number) {
