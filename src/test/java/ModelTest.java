@@ -24,6 +24,7 @@ public final class ModelTest {
         int runs = args.length > 0 ? Integer.parseInt(args[0]) : RUNS;
         for (int run = 0; run < runs; run++) {
             new ModelTest(run).play();
+            new ModelTest(-1 - run).readMany();
         }
         Check.close("ModelTest");
     }
@@ -63,7 +64,7 @@ public final class ModelTest {
 
     private void play() {
         if (random.nextInt(10) > 0) {
-            read("load", 900, validText());
+            read("load", validText());
         }
         int calls = 20 + random.nextInt(CALLS);
         boolean long1 = random.nextInt(4) == 0;
@@ -74,6 +75,32 @@ public final class ModelTest {
             }
         }
         observeAll();
+    }
+
+    /** Texts and queries alone: spoilt ones, and words in an order that is only nearly right. */
+    private void readMany() {
+        for (int count = 0; count < 12; count++) {
+            boolean asking = random.nextInt(3) == 0;
+            String text = random.nextBoolean() ? soupText(asking) : spoilt(asking ? queryText() : validText());
+            read(asking ? "query" : "load", text);
+        }
+    }
+
+    /** Mostly a piece that may follow the one before it, as the start of a text or query leads on. */
+    private String soupText(boolean asking) {
+        String[] pieces = asking
+                ? "not not ( ( ) ) and or < = > 0 99999 100000 number driver kind class state result arg x ;".split(" ")
+                : ("not not [ [ ] ] ( ( ) ) and or < = > + - * 0 7 8 65535 65536 reg@0 reg@7 reg@8 var@3 var@4 arg arg "
+                + "res ; ;@command@b@once@time@1 time@50 time@51 result set@7= set@8= keep@3= keep@4= x").split(" ");
+        String[] starts = asking ? new String[] {"many ", "first ", "many not ", "first (", "many 1=1 and "}
+                : new String[] {"drivers 1;command a check ", "drivers 2;command a pure time 1 result ",
+                    "drivers 3;command a once time 1 set 0=", "drivers 4;command a again time 1 keep 0=",
+                    "drivers 1;command a check [ not reg 1=", "drivers 1;command a check not not not ( "};
+        StringBuilder b = new StringBuilder(starts[random.nextInt(starts.length)]);
+        for (int count = random.nextInt(16); count > 0; count--) {
+            b.append(pieces[random.nextInt(pieces.length)].replace('@', ' ')).append(random.nextInt(3) == 0 ? "" : " ");
+        }
+        return b.toString();
     }
 
     private void step(boolean longRuns) {
@@ -99,10 +126,10 @@ public final class ModelTest {
                     both(random.nextBoolean() ? "saveState" : "restoreState");
                 }
             }
-            case 28, 29 -> read("query", 200, queryText());
+            case 28, 29 -> read("query", queryText());
             case 30 -> {
                 if (random.nextInt(12) == 0) {
-                    read("load", 900, random.nextInt(4) == 0 ? validText() : spoilt(validText()));
+                    read("load", random.nextInt(4) == 0 ? validText() : spoilt(validText()));
                 }
             }
             default -> single();
@@ -184,7 +211,7 @@ public final class ModelTest {
         return random.nextInt(3) > 0 ? 0 : random.nextInt(20) == 0 ? pick(0, 100000) : pick(0, 25);
     }
 
-    private void read(String name, int most, String text) {
+    private void read(String name, String text) {
         byte[] bytes = text.getBytes(StandardCharsets.ISO_8859_1);
         for (int at = 0; at < bytes.length; at += 20) {
             int[] words = new int[5];
@@ -203,7 +230,7 @@ public final class ModelTest {
 
     private String spoilt(String text) {
         StringBuilder b = new StringBuilder(text);
-        for (int times = 1 + random.nextInt(2); times > 0; times--) {
+        for (int times = 1 + random.nextInt(2); times > 0 && b.length() > 0; times--) {
             int at = random.nextInt(b.length());
             String[] odd = {";", "(", ")", "[", "]", "not ", " res ", " reg ", " var 2", "=", "99999", "7", "\u00e9",
                 "A", "\t", " command ", " and ", "<", "0", "65536", " number ", "x", "-", "*", "\u0000", "((((((("};
